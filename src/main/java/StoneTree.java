@@ -292,6 +292,9 @@ public final class StoneTree {
 
     /** Which keys and children a node has. */
     private static final class Shape {
+        private static final int[] FIRST_KEYS = {0, 0, 9, 18, 0, 3, 6, 9, 12, 15, 18, 21, 24};
+        private static final int[] KEYS_OF_CHILD = {9, 3, 3, 3, 1, 1, 1, 1, 1, 1, 1, 1, 1};
+
         static boolean isLow(int node) {
             return node >= FIRST_LOW;
         }
@@ -303,25 +306,12 @@ public final class StoneTree {
             return node < FIRST_LOW ? 1 : 2;
         }
 
-        static int keysOfChild(int node) {
-            switch (level(node)) {
-                case 0: return 9;
-                case 1: return 3;
-                default: return 1;
-            }
-        }
-
         static int firstKey(int node) {
-            int keys = CHILDREN * keysOfChild(node);
-            switch (level(node)) {
-                case 0: return 0;
-                case 1: return (node - FIRST_MIDDLE) * keys;
-                default: return (node - FIRST_LOW) * keys;
-            }
+            return node >= 0 && node < FIRST_KEYS.length ? FIRST_KEYS[node] : 0;
         }
 
         static int lastKey(int node) {
-            return firstKey(node) + CHILDREN * keysOfChild(node) - 1;
+            return lastKeyOfChild(node, CHILDREN - 1);
         }
 
         static int firstKeyOfChild(int node, int child) {
@@ -329,7 +319,11 @@ public final class StoneTree {
         }
 
         static int lastKeyOfChild(int node, int child) {
-            return firstKeyOfChild(node, child) + keysOfChild(node) - 1;
+            return firstKeyOfChild(node, child + 1) - 1;
+        }
+
+        private static int keysOfChild(int node) {
+            return node >= 0 && node < KEYS_OF_CHILD.length ? KEYS_OF_CHILD[node] : 0;
         }
 
         static int childNode(int node, int child) {
@@ -441,7 +435,7 @@ public final class StoneTree {
         }
 
         int stonesIn(int node) {
-            return numberOf(sizes, node);
+            return node >= 0 && node < sizes.length ? sizes[node] : 0;
         }
 
         int timesSunk(int node) {
@@ -495,17 +489,14 @@ public final class StoneTree {
         }
 
         int stoneAt(int node, int place) {
-            return hasPlace(node, place) ? buffers[node * ROOM + place] : 0;
+            boolean isThere = node >= 0 && node < NODES && place >= 0 && place < ROOM;
+            return isThere ? buffers[node * ROOM + place] : 0;
         }
 
         private void layAt(int node, int place, int stone) {
-            if (hasPlace(node, place)) {
+            if (node >= 0 && node < NODES && place >= 0 && place < ROOM) {
                 buffers[node * ROOM + place] = stone;
             }
-        }
-
-        private static boolean hasPlace(int node, int place) {
-            return node >= 0 && node < NODES && place >= 0 && place < ROOM;
         }
 
         private void putIn(int node, int place, int stone) {
@@ -541,7 +532,7 @@ public final class StoneTree {
             }
         }
 
-        /** The level is the depth of the recursion: come, sinkInto and goDown call one another. */
+        /** The level is the depth of the recursion: come and sinkInto call one another. */
         private void come(int node, int stone, int level) {
             if (level >= LEVELS) {
                 return;
@@ -567,25 +558,22 @@ public final class StoneTree {
             int down = 0;
             for (int looked = 0; looked < size; looked++) {
                 int stone = stoneAt(node, place);
-                if (Stone.touches(stone, from, to)) {
-                    place += leaveRest(node, place, from, to);
-                    down++;
-                    goDown(node, child, Stone.part(stone, from, to), level);
-                } else {
+                if (!Stone.touches(stone, from, to)) {
                     place++;
+                    continue;
+                }
+                place += leaveRest(node, place, from, to);
+                down++;
+                int part = Stone.part(stone, from, to);
+                if (Shape.isLow(node)) {
+                    applyToLeaf(from, part);
+                } else {
+                    come(Shape.childNode(node, child), part, level + 1);
                 }
             }
             if (down > 0) {
                 addTo(timesSunk, node, 1);
                 addTo(stonesSunk, node, down);
-            }
-        }
-
-        private void goDown(int node, int child, int stone, int level) {
-            if (Shape.isLow(node)) {
-                applyToLeaf(Shape.firstKeyOfChild(node, child), stone);
-            } else {
-                come(Shape.childNode(node, child), stone, level + 1);
             }
         }
 
