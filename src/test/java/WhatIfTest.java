@@ -73,6 +73,8 @@ public final class WhatIfTest {
         check.due("no doubles: both go down, and one more each time", tree.wouldSink(5), 6);
         check.due("worstKey(0)", tree.worstKey(0), 5);
         check.due("worstKey(1)", tree.worstKey(1), 6);
+        tree.empty(0);
+        check.due("what went down before does not count", tree.wouldSink(5), 0);
         for (int key : new int[] {-1, 27, Integer.MAX_VALUE, Integer.MIN_VALUE}) {
             check.error(tree, "wouldSink(" + key + ")", () -> tree.wouldSink(key), -1);
         }
