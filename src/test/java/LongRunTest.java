@@ -120,7 +120,7 @@ public final class LongRunTest {
             default: order += first + "-" + (draw(6) == 0 ? draw(30) : Math.min(26, first + draw(9))) + "+" + draw(100); break;
         }
         for (int at = 0; at < order.length(); at += 4) {
-            long packed = Check.packed(order.substring(at, Math.min(order.length(), at + 4)));
+            long packed = Calls.packed(order.substring(at, Math.min(order.length(), at + 4)));
             due("put " + packed, tree.put(packed), model.put(packed));
         }
     }
