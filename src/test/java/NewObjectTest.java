@@ -16,6 +16,7 @@ public final class NewObjectTest {
     }
 
     private static void aNewObject() {
+        check.sentence("1: Creates a tree in which all keys are absent");
         StoneTree tree = new StoneTree();
         int[] counts = {0, 0, 0, 0, 0, 0, 0, 0, 4, 1};
         for (int what = 0; what < counts.length; what++) {
@@ -47,6 +48,7 @@ public final class NewObjectTest {
     }
 
     private static void theConstants() throws Exception {
+        check.sentence("The constants; Settings; Kinds of stones");
         String[] names = {"NO_SUCH", "BAD_VALUE", "BAD_TEXT", "TOO_MANY", "NOT_POSSIBLE", "NONE",
             "BUFFER", "DOUBLES", "SET", "ADD", "ERASE"};
         int[] values = {-1, -2, -3, -4, -5, -6, 0, 1, 0, 1, 2};
@@ -57,6 +59,7 @@ public final class NewObjectTest {
     }
 
     private static void theFace() {
+        check.sentence("The public face");
         TreeSet<String> face = new TreeSet<>();
         for (Method method : StoneTree.class.getDeclaredMethods()) {
             if (!Modifier.isPrivate(method.getModifiers()) && !method.isSynthetic()) {
